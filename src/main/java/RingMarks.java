@@ -305,16 +305,14 @@ public final class RingMarks {
                 return isDrawnChainLaid();
             case 2:
             case 3:
-                return fetch() >= 0;
+                return ring.take(latestWalk) >= 0;
             case 4:
             case 5:
                 return isFirstFetchedFinished();
             case 6:
                 return reap() >= 0;
             default:
-                int kicked = kick();
-                int signalled = signal();
-                return kicked == 1 || signalled == 1;
+                return ring.notifyDevice() + ring.notifyDriver() > 0;
         }
     }
 
@@ -333,7 +331,7 @@ public final class RingMarks {
 
     private boolean isFirstFetchedFinished() {
         int b = ring.firstFetched();
-        return b != NONE && finish(b, draw(10)) == 0;
+        return b != NONE && ring.use(b, draw(10), false) == 0;
     }
 
     /** The bytes that were fed, and the place up to which they were read. */
@@ -525,7 +523,8 @@ public final class RingMarks {
         static final int FORMAT = 18;
         static final int PLACES = 19;
         static final int FEATURES = 20;
-        static final int MARKS = 21;
+        static final int WRAPS_AT = 21;
+        static final int MARKS = 22;
 
         // What a buffer has is numbered as buffer() asks for it.
         static final int STATE = 0;
@@ -567,6 +566,7 @@ public final class RingMarks {
             marks[FORMAT] = format;
             marks[PLACES] = places;
             marks[FEATURES] = features;
+            marks[WRAPS_AT] = format == 1 ? 2 * places : SPLIT_WRAP;
             Arrays.fill(sizes, 0);
             sizes[0] = places;
             clearTransport();
@@ -600,7 +600,9 @@ public final class RingMarks {
             marks[SIGNALLED_AT] = 0;
             marks[DRIVER_HUSHES] = 0;
             marks[DEVICE_HUSHES] = 0;
-            Arrays.fill(cells, 0, MOST_PLACES * 3, 0);
+            for (int i = 0; i < marks[PLACES]; i++) {
+                putDescriptor(0, i, 0, 0, 0);
+            }
             Arrays.fill(rows, NONE);
             Arrays.fill(owners, NONE);
             Arrays.fill(tableOwners, NONE);
@@ -619,20 +621,20 @@ public final class RingMarks {
         }
 
         int wrapsAt() {
-            return isPacked() ? 2 * places() : SPLIT_WRAP;
+            return marks[WRAPS_AT];
         }
 
         // Places and wraps are powers of two, so a mask stands for the rest of a division.
         int placeOf(int position) {
-            return position & (places() - 1);
+            return position & marks[PLACES] - 1;
         }
 
         int moved(int position, int by) {
-            return position + by & (wrapsAt() - 1);
+            return position + by & marks[WRAPS_AT] - 1;
         }
 
         boolean wrapOf(int position) {
-            return position < places();
+            return position < marks[PLACES];
         }
 
         /** Whether an event lies in what was passed from old to new, by compares that wrap at m (a power of two). */
@@ -644,15 +646,21 @@ public final class RingMarks {
             return table >= 0 && table < TABLES ? sizes[table] : NONE;
         }
 
+        /** Where that of a descriptor stands among the cells, or NONE. */
+        private int cellIndex(int table, int i, int what) {
+            boolean known = table >= 0 && table < TABLES && what >= LEN && what <= LINK;
+            return known && i >= 0 && i < sizes[table] ? (table * MOST_PLACES + i) * 3 + what : NONE;
+        }
+
         int cell(int table, int i, int what) {
-            boolean known = i >= 0 && i < sizeOf(table) && what >= LEN && what <= LINK;
-            return known ? cells[(table * MOST_PLACES + i) * 3 + what] : NONE;
+            int at = cellIndex(table, i, what);
+            return at >= 0 && at < cells.length ? cells[at] : NONE;
         }
 
         void putCell(int table, int i, int what, int value) {
-            boolean known = i >= 0 && i < sizeOf(table) && what >= LEN && what <= LINK;
-            if (known) {
-                cells[(table * MOST_PLACES + i) * 3 + what] = value;
+            int at = cellIndex(table, i, what);
+            if (at >= 0 && at < cells.length) {
+                cells[at] = value;
             }
         }
 
@@ -1047,14 +1055,16 @@ public final class RingMarks {
         static final int NO_BUFFER = 7;
 
         // Table 0 and one inner table, each opened and shut.
-        final int[] acts = new int[4];
-        int actCount = 0;
+        private final int[] acts = new int[4];
+        private int actCount = 0;
         int reason = 0;
         int parts = 0;
         int capacity = 0;
         int load = 0;
         int places = 0;
         int lastLink = NONE;
+        private int innerTable = NONE;
+        private int innerSize = 0;
         private boolean wrote = false;
 
         int act(int i) {
@@ -1069,9 +1079,15 @@ public final class RingMarks {
             load = 0;
             places = 0;
             lastLink = NONE;
+            innerTable = NONE;
             wrote = false;
             note(1);
             reason = goOuter(ring, start);
+            if (reason == 0 && innerTable != NONE) {
+                note(innerTable * 10 + 1);
+                reason = goInner(ring);
+                note(innerTable * 10 + 2);
+            }
             note(2);
         }
 
@@ -1100,7 +1116,7 @@ public final class RingMarks {
                 lastLink = ring.cell(0, place, Ring.LINK);
                 int flags = ring.cell(0, place, Ring.FLAGS);
                 if ((flags & Ring.INDIRECT) != 0) {
-                    return goIndirect(ring, place, k == 0);
+                    return enterTable(ring, place, k == 0);
                 }
                 if (!isPartTaken(ring.cell(0, place, Ring.LEN), flags)) {
                     return BAD_ORDER;
@@ -1113,7 +1129,8 @@ public final class RingMarks {
             return AGAIN;
         }
 
-        private int goIndirect(Ring ring, int place, boolean first) {
+        /** An indirect one can only be the last of table 0: so the walk goes on in its table alone. */
+        private int enterTable(Ring ring, int place, boolean first) {
             if (!ring.hasFeature(Ring.WITH_INDIRECT)) {
                 return NO_FEATURE;
             }
@@ -1126,34 +1143,33 @@ public final class RingMarks {
             if (!known || len <= 0 || len > ring.sizeOf(table)) {
                 return BAD_TABLE;
             }
-            note(table * 10 + 1);
-            int found = goInner(ring, table, len);
-            note(table * 10 + 2);
-            return found;
+            innerTable = table;
+            innerSize = len;
+            return 0;
         }
 
-        private int goInner(Ring ring, int table, int size) {
+        private int goInner(Ring ring) {
             int at = 0;
             int visited = 0;
             for (int k = 0; k <= Ring.MOST_PLACES; k++) {
-                if (at < 0 || at >= size) {
+                if (at < 0 || at >= innerSize) {
                     return NOT_THERE;
                 }
                 if ((visited >> at & 1) != 0) {
                     return AGAIN;
                 }
                 visited |= 1 << at;
-                int flags = ring.cell(table, at, Ring.FLAGS);
+                int flags = ring.cell(innerTable, at, Ring.FLAGS);
                 if ((flags & Ring.INDIRECT) != 0) {
                     return BAD_INDIRECT;
                 }
-                if (!isPartTaken(ring.cell(table, at, Ring.LEN), flags)) {
+                if (!isPartTaken(ring.cell(innerTable, at, Ring.LEN), flags)) {
                     return BAD_ORDER;
                 }
                 if ((flags & Ring.NEXT) == 0) {
                     return 0;
                 }
-                at = ring.cell(table, at, Ring.LINK);
+                at = ring.cell(innerTable, at, Ring.LINK);
             }
             return AGAIN;
         }
