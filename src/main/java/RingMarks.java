@@ -1149,13 +1149,15 @@ public final class RingMarks {
         }
 
         private int goInner(Ring ring) {
+            // The document tells the bound of N for each walk of a packed ring, not for that of table 0 alone.
+            int most = ring.isPacked() ? ring.places() : Ring.MOST_PLACES;
             int at = 0;
             int visited = 0;
             for (int k = 0; k <= Ring.MOST_PLACES; k++) {
                 if (at < 0 || at >= innerSize) {
                     return NOT_THERE;
                 }
-                if ((visited >> at & 1) != 0) {
+                if ((visited >> at & 1) != 0 || k >= most) {
                     return AGAIN;
                 }
                 visited |= 1 << at;

@@ -342,7 +342,7 @@ final class Model {
             if (at >= size) {
                 return 1;
             }
-            if (been.contains(at)) {
+            if (been.contains(at) || format == 1 && been.size() == n) {
                 return 2;
             }
             been.add(at);

@@ -85,9 +85,11 @@ public final class PackedTest {
         Due.is("P21 no table", x.buffer(5, 3), -1);
         Due.is("P5 the table of ID 5 is that of 1", Due.offer(x, "r1", 1), -6);
         x.setup(1, 2, 2);
-        Due.is("P5 more parts than places", Due.offer(x, "r1r2r3", 1), 0);
+        Due.is("P5 as many parts as places", Due.offer(x, "r1r2", 1), 0);
         Due.is("P6 fetch", x.fetch(), 0);
-        Due.is("P21 load", x.buffer(0, 5), 6);
+        Due.is("P5 more parts than places", Due.offer(x, "r1r2r3", 1), 1);
+        Due.is("P6 N were in this walk already", x.fetch(), -12);
+        Due.is("P23 acts", x.walked(1) * 100 + x.walked(2), 2122);
     }
 
     private static void batches() {

@@ -140,10 +140,12 @@ public final class StepsTest {
 
     private static void manyPrograms() {
         Random random = new Random(5);
+        RingMarks x = new RingMarks();
         for (int run = 0; run < 1500; run++) {
             String[] driver = words(random, DRIVER, 9);
             String[] device = words(random, DEVICE, 6);
-            RingMarks x = new RingMarks();
+            // Programs follow one another on the same object, too.
+            x = run % 4 == 0 ? new RingMarks() : x;
             String told = String.join(" ", driver) + " / " + String.join(" ", device);
             Due.is("P26 " + told, Due.steps(x, text(driver), 0), driver.length);
             Due.is("P26 " + told, Due.steps(x, text(device), 1), device.length);

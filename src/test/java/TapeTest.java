@@ -1,8 +1,11 @@
+import java.nio.charset.StandardCharsets;
+
 /** Promises 1 to 3 and 37, and the faults of promise 5 and 26. */
 public final class TapeTest {
     public static void main(String[] args) {
         newObject();
         feedAndEnd();
+        cutOff();
         chainTexts();
         chainFaults();
         stepFaults();
@@ -34,6 +37,7 @@ public final class TapeTest {
         Due.is("P3 too many", x.end(101), false);
         Due.is("P3 below 0", x.end(-1), false);
         Due.is("P3 stays", x.count(4), 100);
+        Due.is("P3 all of them", x.end(100), true);
         Due.is("P3 81", x.end(81), true);
         Due.is("P2 one too many", x.feed(1, 1, 1, 1, 1), -1);
         Due.is("P3 80", x.end(80), true);
@@ -51,6 +55,21 @@ public final class TapeTest {
         x.feed(0xF2310000, 0, 0, 0, 0);
         x.end(2);
         Due.is("P2 byte above 127", x.offer(0), -1000);
+    }
+
+    /** What was cut off by end() is not read, though it was fed. */
+    private static void cutOff() {
+        String[] texts = {"r5w7", "r5w7", "r57", "add;", "add;", "add;"};
+        int[] lengths = {1, 3, 2, 3, 0, 2};
+        int[] answers = {-1001, -1003, 0, -1003, 0, -1000};
+        for (int k = 0; k < texts.length; k++) {
+            RingMarks x = new RingMarks();
+            byte[] b = texts[k].getBytes(StandardCharsets.ISO_8859_1);
+            x.feed(b[0] << 24 | b[1] << 16 | b[2] << 8 | (b.length > 3 ? b[3] : 0), 0x20202020, 0, 0, 0);
+            x.end(lengths[k]);
+            Due.is("P3 cut off " + texts[k] + " at " + lengths[k], k < 3 ? x.offer(0) : x.steps(0), answers[k]);
+            Due.is("P3 length", x.descriptor(0, 0, 0), k == 2 ? 5 : 0);
+        }
     }
 
     private static void chainTexts() {
@@ -91,9 +110,9 @@ public final class TapeTest {
     }
 
     private static void stepFaults() {
-        String[] texts = {"add", "add ", "add add;", "adda;", "ad;", ";", "add;;", "add;x", "Add;", "add1;", "add;  tel;",
+        String[] texts = {"add", "add ", "add add;", "adda;", "addz;", "ad;", ";", "add;;", "add;x", "Add;", "add1;", "add;  tel;",
             "drain;", "add;read;tell;kick;add;read;tell;kick; add;", "add;read;tell;kick;add;read;tell;kick; ;", "5;"};
-        int[] places = {3, 4, 4, 0, 0, 0, 4, 4, 0, 3, 6,
+        int[] places = {3, 4, 4, 0, 0, 0, 0, 4, 4, 0, 3, 6,
             0, 39, 39, 0};
         RingMarks x = new RingMarks();
         Due.is("P26 driver", Due.steps(x, " add ; tell;", 0), 2);
