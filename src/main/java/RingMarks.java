@@ -646,21 +646,15 @@ public final class RingMarks {
             return table >= 0 && table < TABLES ? sizes[table] : NONE;
         }
 
-        /** Where that of a descriptor stands among the cells, or NONE. */
-        private int cellIndex(int table, int i, int what) {
-            boolean known = table >= 0 && table < TABLES && what >= LEN && what <= LINK;
-            return known && i >= 0 && i < sizes[table] ? (table * MOST_PLACES + i) * 3 + what : NONE;
-        }
-
         int cell(int table, int i, int what) {
-            int at = cellIndex(table, i, what);
-            return at >= 0 && at < cells.length ? cells[at] : NONE;
+            boolean known = table >= 0 && table < TABLES && what >= LEN && what <= LINK;
+            return known && i >= 0 && i < sizes[table] ? cells[(table * MOST_PLACES + i) * 3 + what] : NONE;
         }
 
         void putCell(int table, int i, int what, int value) {
-            int at = cellIndex(table, i, what);
-            if (at >= 0 && at < cells.length) {
-                cells[at] = value;
+            boolean known = table >= 0 && table < TABLES && what >= LEN && what <= LINK;
+            if (known && i >= 0 && i < sizes[table]) {
+                cells[(table * MOST_PLACES + i) * 3 + what] = value;
             }
         }
 
@@ -898,11 +892,8 @@ public final class RingMarks {
             }
             tellUsed(b, n);
             putBuffer(b, WRITTEN, n);
-            if (whole) {
-                return moveUsedUpTo(b);
-            }
-            moveUsedFor(b);
-            return 0;
+            int finished = moveUsed(b, whole);
+            return whole ? finished : 0;
         }
 
         private void tellUsed(int b, int n) {
@@ -917,21 +908,18 @@ public final class RingMarks {
             }
         }
 
-        private void moveUsedFor(int b) {
-            putBuffer(b, STATE, IS_FINISHED);
-            marks[USED] = moved(marks[USED], strideOf(b));
-        }
-
         private int strideOf(int b) {
             return isPacked() ? ofBuffer(b, HELD) : 1;
         }
 
-        private int moveUsedUpTo(int last) {
+        /** How many are finished by that: the last one, and with the whole batch all that are ahead of it. */
+        private int moveUsed(int last, boolean whole) {
             int finished = 0;
             for (int i = 0; i < places(); i++) {
                 int b = holderOf(i, IS_FETCHED);
-                if (b != NONE && b <= last) {
-                    moveUsedFor(b);
+                if (b != NONE && (whole ? b <= last : b == last)) {
+                    putBuffer(b, STATE, IS_FINISHED);
+                    marks[USED] = moved(marks[USED], strideOf(b));
                     finished++;
                 }
             }
