@@ -7,7 +7,7 @@ public final class DrawnTest {
         knownOnes();
         for (int seed = -40; seed < 40; seed++) {
             for (int format = 0; format <= 1; format++) {
-                new DrawnTest().replay(format, 2 << Math.floorMod(seed, 3), Math.floorMod(seed, 8), seed);
+                new DrawnTest().compare(format, 2 << Math.floorMod(seed, 3), Math.floorMod(seed, 8), seed);
             }
         }
         broken();
@@ -36,16 +36,23 @@ public final class DrawnTest {
         return (x >>> 8) % n;
     }
 
-    private void replay(int format, int places, int features, int seed) {
+    /** The deeds of a seed, done by calls: how many were done. */
+    static int replay(RingMarks r, int n, int seed) {
+        DrawnTest draws = new DrawnTest();
+        draws.x = seed;
+        int done = 0;
+        for (int k = 0; k < n; k++) {
+            done += draws.deed(r) ? 1 : 0;
+        }
+        return done;
+    }
+
+    private void compare(int format, int places, int features, int seed) {
         RingMarks drawn = Due.ring(format, places, features);
         RingMarks called = Due.ring(format, places, features);
         for (int round = 0; round < 8; round++) {
-            x = seed * 31 + round;
-            int done = 0;
             int n = 5 + round;
-            for (int k = 0; k < n; k++) {
-                done += deed(called) ? 1 : 0;
-            }
+            int done = replay(called, n, seed * 31 + round);
             Due.is("P34 done", drawn.drawn(n, seed * 31 + round), done);
             for (int what = 0; what <= 12; what++) {
                 Due.is("P34 now " + what, drawn.now(what), called.now(what));

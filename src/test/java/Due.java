@@ -4,6 +4,7 @@ import java.nio.charset.StandardCharsets;
 final class Due {
     private static int asked = 0;
     private static int wrong = 0;
+    private static String about = "";
 
     private Due() {
     }
@@ -13,9 +14,28 @@ final class Due {
         if (got != want) {
             wrong++;
             if (wrong <= 40) {
-                System.out.println(call + " answered " + got + ", due is " + want);
+                System.out.println(about + call + " answered " + got + ", due is " + want);
             }
         }
+    }
+
+    static void same(String call, String got, String want) {
+        asked++;
+        if (!got.equals(want)) {
+            wrong++;
+            if (wrong <= 40) {
+                System.out.println(about + call + " answered " + got + ", due is " + want);
+            }
+        }
+    }
+
+    /** What the next answers are about is told ahead of each wrong one. */
+    static void about(String words) {
+        about = words;
+    }
+
+    static int asked() {
+        return asked;
     }
 
     static void is(String call, boolean got, boolean want) {

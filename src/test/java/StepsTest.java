@@ -184,7 +184,7 @@ public final class StepsTest {
     }
 
     /** Level by level, with the first row of sides to each state written out. */
-    private static final class Oracle {
+    static final class Oracle {
         private final String[] driver;
         private final String[] device;
         private final Set<String> all = new HashSet<>();
