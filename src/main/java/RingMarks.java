@@ -823,12 +823,13 @@ public final class RingMarks {
         // ---- the device fetches and finishes
 
         int take(Walk walk) {
+            // Broken is told till reset(), whatever the marks that the device would look at become.
+            if (marks[BROKEN] != 0) {
+                return -2;
+            }
             boolean there = isPacked() ? isMarked(marks[SEEN], false) : marks[SEEN] != marks[OFFERED];
             if (!there) {
                 return NONE;
-            }
-            if (marks[BROKEN] != 0) {
-                return -2;
             }
             int start = isPacked() ? marks[SEEN] : rowAt(placeOf(marks[SEEN]), ROW_OFFERED);
             walk.go(this, start);

@@ -306,10 +306,10 @@ final class CallsSentences {
             x.fetch();
             Due.is("broken", x.fetch(), -2);
             Bench.turn(x, 0, 0, 8);
-            Due.is("none is there comes ahead of that", x.fetch(), -1);
-            Due.is("it is broken all the same", x.now(7), 6);
-            Bench.turn(x, 0, 0, 8);
-            Due.is("broken", x.fetch(), -2);
+            Due.is("broken till reset(), though its mark is gone", x.fetch(), -2);
+            Due.is("by that reason", x.now(7), 6);
+            x.reset();
+            Due.is("none is there", x.fetch(), -1);
         });
     }
 

@@ -376,12 +376,12 @@ final class Model {
     }
 
     int fetch() {
+        if (broken != 0) {
+            return -2;
+        }
         Desc d = tables.get(0).get(seen % n);
         if (format == 0 ? seen == offered : d.avail() != wrap(seen) || d.done() == wrap(seen)) {
             return -1;
-        }
-        if (broken != 0) {
-            return -2;
         }
         acts = new ArrayList<>();
         int[] w = walk(format == 0 ? rowOffered[seen % n] : seen, acts);
