@@ -98,6 +98,27 @@ final class Bench {
         return text.toString();
     }
 
+    /** All that can be asked of the ring. */
+    static String whole(RingMarks x) {
+        StringBuilder text = new StringBuilder();
+        for (int what = 0; what <= 12; what++) {
+            text.append(x.now(what)).append(' ');
+        }
+        for (int t = 0; t <= 4; t++) {
+            text.append('|').append(table(x, t));
+        }
+        for (int what = 0; what <= 2; what++) {
+            text.append('|').append(row(x, what));
+        }
+        for (int b = 0; b < x.now(5); b++) {
+            text.append('|');
+            for (int what = 0; what <= 7; what++) {
+                text.append(x.buffer(b, what)).append(' ');
+            }
+        }
+        return text.toString();
+    }
+
     /** Only the flags of a descriptor are spoilt: these bits are turned over. */
     static void turn(RingMarks x, int table, int i, int bits) {
         x.spoil(table, i, 1, x.descriptor(table, i, 1) ^ bits);

@@ -256,21 +256,7 @@ final class CallsSentences {
             Due.is("ID 5 has table 2", x.buffer(5, 3) * 10 + x.buffer(5, 2), 25);
         });
         Sentence.promise(5, "-7: there were 500 BUFFERS (in this order).", () -> {
-            RingMarks x = Bench.split(8, 2);
-            // Many are offered by drawn deeds: an object is used for 512 calls at most.
-            int calls = 1;
-            for (int k = 0; k < 100 && x.now(5) < 470; k++) {
-                x.drawn(60, k);
-                x.reset();
-                calls += 3;
-            }
-            for (int k = 0; k < 40 && x.now(5) < 499; k++) {
-                Bench.direct(x, "r1");
-                x.reset();
-                calls += 5;
-            }
-            Due.is("not too many calls", calls < 450, true);
-            Due.is("499", x.now(5), 499);
+            RingMarks x = withBuffers(499);
             Due.is("the last", Bench.direct(x, "r1"), 499);
             Due.is("no more", Bench.direct(x, "r1"), -7);
             Due.is("no indirect one", Bench.indirect(x, "r1"), -7);
@@ -283,7 +269,37 @@ final class CallsSentences {
             Due.is("drawn ones, too", x.now(5), 500);
             x.setup(0, 4, 0);
             Due.is("since setup()", Bench.direct(x, "r1"), 0);
+            x = withBuffers(496);
+            for (int k = 0; k < 4; k++) {
+                Bench.indirect(x, "w1r1");
+            }
+            Due.is("behind -6", Bench.indirect(x, "r1"), -6);
+            Due.is("direct", Bench.direct(x, "r1"), -7);
+            x.fetch();
+            Due.is("behind -3", Bench.direct(x, "r1"), -3);
+            Due.is("behind a fault", Bench.direct(x, "r"), -1001);
+            Due.is("behind -2", Due.offer(x, "r1", 2), -2);
         });
+    }
+
+    /** A split ring that is free, behind so many buffers. */
+    private static RingMarks withBuffers(int many) {
+        RingMarks x = Bench.split(8, 2);
+        // Many are offered by drawn deeds: an object is used for 512 calls at most.
+        int calls = 1;
+        for (int k = 0; k < 100 && x.now(5) < many - 30; k++) {
+            x.drawn(60, k);
+            x.reset();
+            calls += 3;
+        }
+        for (int k = 0; k < 40 && x.now(5) < many; k++) {
+            Bench.direct(x, "r1");
+            x.reset();
+            calls += 5;
+        }
+        Due.is("not too many calls", calls < 450, true);
+        Due.is("so many", x.now(5), many);
+        return x;
     }
 
     private static void fetch() {
@@ -362,9 +378,11 @@ final class CallsSentences {
             Bench.fetchAll(x, 2);
             Due.is("another is first", x.finish(1, 5), -3);
             Due.is("broken", x.fetch(), -16);
+            String before = Bench.whole(x);
             Due.is("-3 ahead of -4", x.finish(1, 5), -3);
             Due.is("-4", x.finish(0, 5), -4);
             Due.same("nothing is finished", Bench.buffers(x) + " " + Bench.positions(x), "110 3 2 0 0");
+            Due.same("nothing is told", Bench.whole(x), before);
             x = Bench.split(4, 0);
             Bench.direct(x, "w5");
             Bench.direct(x, "w5");
@@ -425,7 +443,9 @@ final class CallsSentences {
                 Due.is("features " + features, x.batch(0, 5), (features & 1) == 0 ? -3 : 1);
                 x.restore(0);
                 x.fetch();
+                String before = Bench.whole(x);
                 Due.is("broken, features " + features, x.batch(0, 5), (features & 1) == 0 ? -3 : -4);
+                Due.same("nothing is told, features " + features, Bench.whole(x), before);
             }
         });
     }

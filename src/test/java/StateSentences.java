@@ -104,6 +104,24 @@ final class StateSentences {
             for (int far : FAR) {
                 Due.is("far off", x.now(far), -1);
             }
+            for (int format = 0; format <= 1; format++) {
+                x.setup(format, 8, 1);
+                Bench.direct(x, "w9");
+                Bench.direct(x, "w9");
+                Bench.fetchAll(x, 2);
+                x.batch(1, 7);
+                x.kick();
+                x.signal();
+                x.hush(0, 1);
+                x.hush(1, 1);
+                x.reap();
+                for (int what = 13; what < 40; what++) {
+                    Due.is("in use, " + what, x.now(what), -1);
+                    Due.is("in use, below 0", x.now(12 - what), -1);
+                }
+                x.reap();
+                Due.is("behind a length", x.now(13), -1);
+            }
         });
     }
 
