@@ -432,12 +432,12 @@ public final class RingMarks {
         }
 
         int lengthOf(int k) {
-            return k >= 0 && k < size ? lengths[k] : 0;
+            return k >= 0 && k < size && k < MOST_PARTS ? lengths[k] : 0;
         }
 
         int flagsOf(int k) {
-            int write = k >= 0 && k < size && writes[k] ? Ring.WRITE : 0;
-            return k < size - 1 ? write | Ring.NEXT : write;
+            boolean write = k >= 0 && k < size && k < MOST_PARTS && writes[k];
+            return (write ? Ring.WRITE : 0) | (k < size - 1 ? Ring.NEXT : 0);
         }
 
         /** The place of the first fault, or NONE. */
@@ -647,13 +647,13 @@ public final class RingMarks {
         }
 
         int cell(int table, int i, int what) {
-            boolean known = table >= 0 && table < TABLES && what >= LEN && what <= LINK;
-            return known && i >= 0 && i < sizes[table] ? cells[(table * MOST_PLACES + i) * 3 + what] : NONE;
+            boolean known = table >= 0 && table < TABLES && i >= 0 && i < MOST_PLACES && what >= LEN && what <= LINK;
+            return known && i < sizes[table] ? cells[(table * MOST_PLACES + i) * 3 + what] : NONE;
         }
 
         void putCell(int table, int i, int what, int value) {
-            boolean known = table >= 0 && table < TABLES && what >= LEN && what <= LINK;
-            if (known && i >= 0 && i < sizes[table]) {
+            boolean known = table >= 0 && table < TABLES && i >= 0 && i < MOST_PLACES && what >= LEN && what <= LINK;
+            if (known && i < sizes[table]) {
                 cells[(table * MOST_PLACES + i) * 3 + what] = value;
             }
         }
@@ -665,12 +665,12 @@ public final class RingMarks {
         }
 
         int rowAt(int place, int what) {
-            boolean known = !isPacked() && place >= 0 && place < places() && what >= 0 && what <= ROW_LENGTH;
-            return known ? rows[place * 3 + what] : NONE;
+            boolean known = place >= 0 && place < places() && place < MOST_PLACES && what >= 0 && what <= ROW_LENGTH;
+            return known && !isPacked() ? rows[place * 3 + what] : NONE;
         }
 
         private void putRow(int place, int what, int value) {
-            if (place >= 0 && place < MOST_PLACES) {
+            if (place >= 0 && place < MOST_PLACES && what >= 0 && what <= ROW_LENGTH) {
                 rows[place * 3 + what] = value;
             }
         }
@@ -681,7 +681,7 @@ public final class RingMarks {
         }
 
         private void putBuffer(int b, int what, int value) {
-            if (b >= 0 && b < MOST_BUFFERS) {
+            if (b >= 0 && b < MOST_BUFFERS && what >= 0 && what < BUFFER_FIELDS) {
                 buffers[b * BUFFER_FIELDS + what] = value;
             }
         }
@@ -731,7 +731,7 @@ public final class RingMarks {
 
         /** The least ID, or the least descriptor, that no buffer has. */
         private int leastFreeId() {
-            for (int i = 0; i < places(); i++) {
+            for (int i = 0; i < places() && i < MOST_PLACES; i++) {
                 if (owners[i] == NONE) {
                     return i;
                 }
@@ -786,7 +786,7 @@ public final class RingMarks {
             int table = ofBuffer(b, TABLE);
             int before = NONE;
             int laid = 0;
-            for (int i = 0; i < places() && laid < needed; i++) {
+            for (int i = 0; i < places() && i < MOST_PLACES && laid < needed; i++) {
                 if (owners[i] != NONE) {
                     continue;
                 }
@@ -848,7 +848,7 @@ public final class RingMarks {
 
         /** The open buffer of that HEAD or ID that is in that state, or NONE. */
         private int holderOf(int id, int state) {
-            if (id < 0 || id >= places()) {
+            if (id < 0 || id >= places() || id >= MOST_PLACES) {
                 return NONE;
             }
             int b = owners[id];
@@ -868,7 +868,7 @@ public final class RingMarks {
 
         private int firstOpen() {
             int first = NONE;
-            for (int i = 0; i < places(); i++) {
+            for (int i = 0; i < places() && i < MOST_PLACES; i++) {
                 int b = owners[i];
                 if (b != NONE && (first == NONE || b < first)) {
                     first = b;
